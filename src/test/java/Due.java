@@ -1,6 +1,10 @@
+import java.util.function.Supplier;
+import java.util.function.ToLongFunction;
+
 /** Collects the answers of one test class, and prints those that are not the due ones. */
 final class Due {
     private final String test;
+    private String about = "";
     private int asked;
     private int wrong;
 
@@ -8,11 +12,16 @@ final class Due {
         this.test = test;
     }
 
+    /** Tells which promise, and which case of it, the answers from here on belong to. */
+    void about(String promiseAndCase) {
+        about = promiseAndCase + ": ";
+    }
+
     void is(String call, long want, long got) {
         asked++;
         if (want != got) {
             wrong++;
-            System.out.println(test + ": " + call + " answered " + got + ", due is " + want);
+            System.out.println(test + ": " + about + call + " answered " + got + ", due is " + want);
         }
     }
 
@@ -20,7 +29,7 @@ final class Due {
         asked++;
         if (!want.equals(got)) {
             wrong++;
-            System.out.println(test + ": " + call + " answered\n" + got + "\ndue is\n" + want);
+            System.out.println(test + ": " + about + call + " answered\n" + got + "\ndue is\n" + want);
         }
     }
 
@@ -99,5 +108,54 @@ final class Due {
         String before = seen(x);
         is(call, want, asked.getAsLong());
         is(call + " changes nothing", before, seen(x));
+    }
+
+    /**
+     * Asks a call that has to return an error, and holds the object, with its history, its slots
+     * and its pad, against a twin that was not asked.
+     */
+    void refused(String call, long want, Supplier<BlockRounds> scene, ToLongFunction<BlockRounds> asked) {
+        BlockRounds x = scene.get();
+        is(call, want, asked.applyAsLong(x));
+        same(call + " changes nothing", scene.get(), x);
+    }
+
+    /** Whether two objects answer the same from here on. */
+    void same(String call, BlockRounds twin, BlockRounds x) {
+        is(call, seen(twin), seen(x));
+        for (int step = 1; step <= 7; step++) {
+            is(call + ", undo " + step, twin.undo(), x.undo());
+            is(call + ", seen behind undo " + step, seen(twin), seen(x));
+        }
+        for (int slot = 0; slot <= 1; slot++) {
+            is(call + ", restore " + slot, twin.restore(slot), x.restore(slot));
+            is(call + ", seen behind restore " + slot, seen(twin), seen(x));
+        }
+        is(call + ", put", twin.put('0'), x.put('0'));
+        is(call + ", carryOut", twin.carryOut(), x.carryOut());
+        is(call + ", seen behind carryOut", seen(twin), seen(x));
+    }
+
+    /** An object in which something stands everywhere: places, ghosts, what waits, counts, the pad, the history, the slots. */
+    static BlockRounds rich() {
+        BlockRounds x = new BlockRounds();
+        x.resize(6);
+        x.write(0, 1);
+        x.write(5, 9999);
+        x.save(0);
+        x.await(0, BlockRounds.TWICE);
+        x.write(5, 7);
+        x.read(0);
+        x.mend(0);
+        x.wipeOut(0, 5);
+        x.wipeOut(1, 5);
+        x.read(5);
+        x.save(1);
+        x.await(1, BlockRounds.STRAY);
+        x.write(2, 50);
+        x.await(0, BlockRounds.STRAY);
+        x.await(1, BlockRounds.ROT);
+        type(x, "w1=1;r");
+        return x;
     }
 }
