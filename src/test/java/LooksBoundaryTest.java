@@ -29,12 +29,14 @@ public final class LooksBoundaryTest {
         promise14TheNextPlace();
         promise14WhatWaitsNow();
         promise14Data0To9999();
+        promise14TheRound999();
         promise14NothingChanges();
         promise15Kinds1To4();
         promise15NotLostNow();
         promise15WhateverWaitsNow();
         promise15BehindTheLastPlace();
         promise15Data0To9999();
+        promise15TheRound999();
         promise15NothingChanges();
         due.end();
     }
@@ -534,6 +536,26 @@ public final class LooksBoundaryTest {
         }
     }
 
+    /** An object whose place 0 is of this round. No 512 calls reach 999. */
+    private static BlockRounds atRound(int round) {
+        BlockRounds x = new BlockRounds();
+        for (int i = 1; i <= round; i++) {
+            x.write(0, i);
+        }
+        return x;
+    }
+
+    /** "errors as for write()", whose are "TOO_MANY if the round would be above 999": 999 stands, 1000 does not. */
+    private static void promise14TheRound999() {
+        due.about("promise 14, the round 999");
+        due.is("at 998", 5, atRound(998).wouldRead(0, 0, 5));
+        BlockRounds x = atRound(999);
+        due.is("at 999", -4, x.wouldRead(0, 0, 5));
+        due.is("at 999, another place is read", -4, x.wouldRead(1, 0, 5));
+        due.is("at 999, another place is written", 999, x.wouldRead(0, 1, 5));
+        due.is("round", 999, x.round(0));
+    }
+
     /** "what if; nothing changes": no state, no count, nothing that waits, no history. */
     private static void promise14NothingChanges() {
         due.about("promise 14, nothing changes");
@@ -617,6 +639,16 @@ public final class LooksBoundaryTest {
         for (int place : new int[] {-1, 0, 15, 16, Integer.MIN_VALUE, Integer.MAX_VALUE}) {
             due.is("place " + place, place >= 0 && place < 16 ? 22 : -1, x.losing(place, 0));
         }
+    }
+
+    /** "errors as for write()", whose are "TOO_MANY if the round would be above 999": 999 stands, 1000 does not. */
+    private static void promise15TheRound999() {
+        due.about("promise 15, the round 999");
+        due.is("at 998", 22, atRound(998).losing(0, 5));
+        BlockRounds x = atRound(999);
+        due.is("at 999", -4, x.losing(0, 5));
+        due.is("at 999, another place", 30, x.losing(15, 5));
+        due.is("round", 999, x.round(0));
     }
 
     /** "what if; nothing changes": no state, no count, nothing that waits, no history. */

@@ -34,6 +34,7 @@ public final class TextsBoundaryTest {
         promise19AlsoIfNoneIsCarriedOut();
         promise19PlaceAgainstSize();
         promise19TheMostOrders();
+        promise19TheRound999();
         due.end();
     }
 
@@ -497,5 +498,19 @@ public final class TextsBoundaryTest {
         due.is("rounds", 7, x.round(10));
         x.resize(1);
         due.is("40 orders, the last one an error", 39, Due.carryOut(x, "s;".repeat(39) + "r1"));
+    }
+
+    /** ""w": write() data to a place": "TOO_MANY if the round would be above 999" ends a text, too. No 512 calls reach it. */
+    private static void promise19TheRound999() {
+        due.about("promise 19, the round 999");
+        BlockRounds x = new BlockRounds();
+        for (int round = 1; round <= 997; round++) {
+            x.write(0, 1);
+        }
+        due.is("998 and 999, then 1000", 2, Due.carryOut(x, "w0=1;w0=2;w0=3;w1=1"));
+        due.is("round", 999, x.round(0));
+        due.is("data", 2, x.read(0));
+        due.is("the order behind", 0, x.round(1));
+        due.is("the first one", 0, Due.carryOut(x, "w0=3"));
     }
 }
