@@ -62,8 +62,10 @@ public final class ConventionsBoundaryTest {
             Due.type(x, "w0=0;".repeat(15) + "w0=12");
             due.is("text " + text, 16, x.carryOut());
         }
-        due.is("round", 736, x.round(0));
-        due.is("writes so far", 736, x.count(3));
+        Due.type(x, "w0=0;".repeat(7) + "w0=1");
+        due.is("call 512: carryOut", 8, x.carryOut());
+        due.is("round", 744, x.round(0));
+        due.is("writes so far", 744, x.count(3));
     }
 
     /** "NO_SUCH = -1, BAD_VALUE = -2, BAD_TEXT = -3, TOO_MANY = -4, NOT_POSSIBLE = -5, NONE = -6"; "LOSE = 1, STRAY = 2, TWICE = 3, ROT = 4". */
