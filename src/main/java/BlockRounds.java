@@ -631,7 +631,7 @@ public final class BlockRounds {
             if (length + added > LONGEST_PAD) {
                 return TOO_MANY;
             }
-            for (int i = added - 1; i >= 0 && length < LONGEST_PAD; i--) {
+            for (int i = added - 1; i >= 0 && length >= 0 && length < LONGEST_PAD; i--) {
                 signs[length] = (char) ((characters >>> (8 * i)) & 255);
                 length++;
             }
